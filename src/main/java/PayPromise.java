@@ -325,7 +325,7 @@ public final class PayPromise {
         switch (what) {
             case 0: return months.wages[i];
             case 1: return months.paidIn(line(NONE), i);
-            case 2: return months.dueBehind(line(NONE), i + 1);
+            case 2: return Year.due(line(NONE), i + 1, months.wagesOf(i + 1));
             default: return HIDDEN;
         }
     }
@@ -337,7 +337,7 @@ public final class PayPromise {
         }
         switch (what) {
             case 0: return months.wagesOf(months.passed);
-            case 1: return months.paidWith(line(NONE), 0, 0);
+            case 1: return Year.paidOf(line(NONE), months.passed, months.wagesOf(months.passed));
             case 2: return months.paidAboveWage(line(NONE));
             case 3: return months.leastPaid(line(NONE));
             default: return HIDDEN;
@@ -383,8 +383,7 @@ public final class PayPromise {
         if (!hasDesk || !isWage(wage) || !isWage(other)) {
             return HIDDEN;
         }
-        int wages = wage + other;
-        return wages * UNIT - Year.due(line(NONE), 2, wages);
+        return Year.paidOf(line(NONE), 2, wage + other);
     }
 
     /** Promise 32. */
@@ -711,15 +710,22 @@ public final class PayPromise {
             wrong = NONE;
             benefitTold = false;
             for (int clause = 0; clause < MOST_CLAUSES; clause++) {
-                if (look() == 'n') {
+                int sign = look();
+                boolean clean;
+                if (sign == 'n') {
                     readPaid(draft);
                     return wrong;
+                } else if (sign == 'k' && !benefitTold) {
+                    clean = readBenefit(draft);
+                } else if (sign == 'a' + draft.accounts && draft.accounts < MOST_ACCOUNTS) {
+                    clean = readRule(draft);
+                } else {
+                    clean = fail(place);
                 }
-                if (!readClause(draft) || !take(';')) {
+                if (!clean || !take(';')) {
                     return wrong;
                 }
             }
-            look();
             return place;
         }
 
@@ -742,17 +748,6 @@ public final class PayPromise {
             }
             place++;
             return true;
-        }
-
-        private boolean readClause(Rules draft) {
-            int sign = look();
-            if (sign == 'k' && !benefitTold) {
-                return readBenefit(draft);
-            }
-            if (draft.accounts < MOST_ACCOUNTS && sign == 'a' + draft.accounts) {
-                return readRule(draft);
-            }
-            return fail(place);
         }
 
         private boolean readBenefit(Rules draft) {
@@ -1035,12 +1030,12 @@ public final class PayPromise {
 
         /** A stretch from a WAGE on, which must be 0 or the one behind the stretch ahead. */
         void addStretch(int wage, long value, long gain, int further) {
-            makeRoom();
             if (wage == 0) {
                 pieces = 0;
                 seat = 0;
                 open(0, value);
             } else {
+                makeRoom();
                 go(value - endValue, 1);
             }
             go(gain, further);
@@ -1259,7 +1254,7 @@ public final class PayPromise {
             return (back == NONE ? LAST_WAGE + 1 : back) - cliff;
         }
 
-        /** How many of the first WAGES of a PIECE are below the most that was ahead of it. */
+        /** How many of the first WAGES of a PIECE are below the most that was ahead (none or all, if it falls). */
         private int lowAtFirst(int piece, long most) {
             int steps = Steps.firstNoLess(values[piece], gains[piece], further(piece), most);
             return steps == NONE ? further(piece) + 1 : steps;
@@ -1271,10 +1266,7 @@ public final class PayPromise {
             long most = values[0];
             for (int i = 0; i < pieces; i++) {
                 int low = lowAtFirst(i, most);
-                all += low;
-                if (low <= further(i) && gains[i] < 0) {
-                    all += further(i) - low;
-                }
+                all += low == 0 && gains[i] < 0 ? further(i) : low;
                 most = Math.max(most, Math.max(values[i], lastValue(i)));
             }
             return all;
@@ -1290,7 +1282,7 @@ public final class PayPromise {
                 run += low;
                 longest = Math.max(longest, run);
                 if (low <= further(i)) {
-                    run = gains[i] < 0 ? further(i) - low : 0;
+                    run = gains[i] < 0 ? further(i) : 0;
                     longest = Math.max(longest, run);
                 }
                 most = Math.max(most, Math.max(values[i], lastValue(i)));
@@ -1480,24 +1472,20 @@ public final class PayPromise {
             return Math.floorDiv(kept * many, (long) MONTHS_OF_YEAR);
         }
 
-        long dueBehind(Line paid, int many) {
-            return due(paid, many, wagesOf(many));
+        /** PAID of so many MONTHS that had these WAGES together. */
+        static long paidOf(Line paid, int many, int total) {
+            return total * UNIT - due(paid, many, total);
         }
 
         long paidIn(Line paid, int i) {
-            return wages[i] * UNIT - (dueBehind(paid, i + 1) - dueBehind(paid, i));
+            int ahead = wagesOf(i);
+            return wages[i] * UNIT - (due(paid, i + 1, ahead + wages[i]) - due(paid, i, ahead));
         }
 
         /** PAID in a MONTH, had one more with this WAGE come ahead of it. */
         long paidBehind(Line paid, int i, int wage) {
-            long ahead = due(paid, i + 1, wagesOf(i) + wage);
-            return wages[i] * UNIT - (due(paid, i + 2, wagesOf(i + 1) + wage) - ahead);
-        }
-
-        /** PAID of all MONTHS and of so many more with this WAGE each. */
-        long paidWith(Line paid, int more, int wage) {
-            int total = wagesOf(passed) + more * wage;
-            return total * UNIT - due(paid, passed + more, total);
+            int ahead = wagesOf(i) + wage;
+            return wages[i] * UNIT - (due(paid, i + 2, ahead + wages[i]) - due(paid, i + 1, ahead));
         }
 
         int paidAboveWage(Line paid) {
@@ -1533,8 +1521,9 @@ public final class PayPromise {
 
         int leastEach(Line paid, long promise) {
             int left = MONTHS_OF_YEAR - passed;
+            int total = wagesOf(passed);
             for (int wage = 0; wage <= LAST_WAGE; wage++) {
-                if (paidWith(paid, left, wage) >= promise) {
+                if (paidOf(paid, MONTHS_OF_YEAR, total + left * wage) >= promise) {
                     return wage;
                 }
             }
@@ -1542,8 +1531,9 @@ public final class PayPromise {
         }
 
         int leastMonths(Line paid, int wage, long promise) {
+            int total = wagesOf(passed);
             for (int more = 0; more <= MONTHS_OF_YEAR - passed; more++) {
-                if (paidWith(paid, more, wage) >= promise) {
+                if (paidOf(paid, passed + more, total + more * wage) >= promise) {
                     return more;
                 }
             }

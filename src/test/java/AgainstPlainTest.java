@@ -23,7 +23,7 @@ public final class AgainstPlainTest {
         int wrong = faults.wrong;
         for (int i = 0; i < runs && wrong == 0; i++) {
             AgainstPlainTest test = new AgainstPlainTest(seed + 1 + i);
-            test.oneRun(i % 6);
+            test.oneRun(i % 5);
             wrong += test.wrong;
         }
         System.out.println(wrong == 0 ? "no difference" : wrong + " differences");
@@ -103,7 +103,36 @@ public final class AgainstPlainTest {
         return s.toString();
     }
 
+    /** Saw teeth led into saw teeth: lines of some hundred PIECES, which rise and fall. */
+    private String teeth() {
+        StringBuilder s = new StringBuilder();
+        int level = 1 + below(2);
+        int accounts = level + 1 + below(4);
+        for (int i = 0; i < accounts; i++) {
+            int low = i < 2 * level ? 0 : level;
+            s.append((char) ('a' + i)).append('=');
+            s.append(i < level ? 'g' : (char) ('a' + low + below(level)));
+            if (i >= level && chance(30)) {
+                s.append(chance(50) ? "-" : "+").append("gk".charAt(below(2)));
+            }
+            int span = i < level ? 1700 : 20 + below(200);
+            for (int k = 0, from = 0; k < 5 && from <= 9999; k++) {
+                s.append('/').append(from).append(':').append(below(i < level ? 999 : 99)).append(':').append(below(1999));
+                from += 1 + span * 3 / 4 + below(span / 2);
+            }
+            s.append(';');
+        }
+        s.append("n=").append(chance(80) ? "g" : "k");
+        for (int i = 1 + below(3); i > 0; i--) {
+            s.append(chance(50) ? "-" : "+").append((char) ('a' + below(accounts)));
+        }
+        return s.length() > 400 ? teeth() : s.toString();
+    }
+
     private String text(int style) {
+        if (style == 4) {
+            return teeth();
+        }
         int accounts = below(7);
         int[] deep = new int[6];
         StringBuilder s = new StringBuilder();
@@ -168,7 +197,7 @@ public final class AgainstPlainTest {
     private void manyTexts(int many) {
         for (int i = 0; i < many; i++) {
             story.setLength(0);
-            String text = text(below(4));
+            String text = text(below(5));
             if (chance(70)) {
                 text = spoilt(text);
             }
@@ -197,7 +226,7 @@ public final class AgainstPlainTest {
 
     private void newDesk(int style) {
         same("end 0", made.end(0) ? 1 : 0, plain.end(0) ? 1 : 0);
-        String text = text(style % 4);
+        String text = text(style);
         story.append(text).append('\n');
         tell(text);
         same("desk", made.desk(), plain.desk());
