@@ -116,7 +116,11 @@ public final class PromisesTest {
         due(x.feed(0x20200000, 0, 0, 0, 0), NONE);
         due(x.count(0), 399);
         due(x.feed(0, 0, 0, 0, 0x20), 400);
+        due(x.feed(1, 0, 0, 0, 0), NONE);
+        due(x.feed(0, 1, 0, 0, 0), NONE);
         due(x.feed(0, 0, 1, 0, 0), NONE);
+        due(x.feed(0, 0, 0, 1, 0), NONE);
+        due(x.feed(0, 0, 0, 0, 1), NONE);
         due(x.feed(0, 0, 0, 0, 0), 400);
         due(x.fault(), 400);
 
@@ -447,6 +451,9 @@ public final class PromisesTest {
         due(x.promised(Long.MAX_VALUE, 3), 9999);
         due(x.promised(0, 4), NONE);
         due(x.promised(0, -1), NONE);
+
+        due(desk("n=-g").promised(-9999 * UNIT, 3), 9999);
+        due(desk("n=-g").promised(-5 * UNIT - 1, 3), 6);
 
         promise = "15";
         due(x.exactly(UNIT, 0), 1);
@@ -940,6 +947,10 @@ public final class PromisesTest {
         due(x.most(2), -9896 * 1_999_000_000L);
         due(x.most(3), 9999);
         due(x.most(4), 99);
+        // BACK at the last WAGE of a PIECE, and at once the next TRAP: 10 to 13, 15 to 18.
+        x = desk("a=g/0:0/10:5:0/15:10:0;n=g-a");
+        due(x.most(6), 4);
+        due(x.most(7), 8);
         // Of several the first: pieces of the same length, the lowest WAGE with the most and the least PAID.
         x = desk("a=g/0:0/5000:7:0;n=a");
         due(x.most(8), 0);
