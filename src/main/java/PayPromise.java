@@ -1614,6 +1614,8 @@ public final class PayPromise {
         private static final long NOT_A_NUMBER = 0x7ff8000000000000L;
         private static final long TWO_TO_52 = 4503599627370496L;
         private static final int TWO_TO_23 = 8388608;
+        private static final long DOUBLE_MINUS = 0x8000000000000000L;
+        private static final int FLOAT_MINUS = 0x80000000;
         private static final int DOUBLE_BIAS = 1023;
         private static final int FLOAT_BIAS = 127;
 
@@ -1624,7 +1626,7 @@ public final class PayPromise {
             if (dividend == 0) {
                 return NOT_A_NUMBER;
             }
-            return dividend < 0 ? INFINITE | Long.MIN_VALUE : INFINITE;
+            return dividend < 0 ? INFINITE | DOUBLE_MINUS : INFINITE;
         }
 
         static long ofDouble(double number) {
@@ -1634,7 +1636,7 @@ public final class PayPromise {
             double size = number < 0 ? -number : number;
             int power = powerOf(size);
             long bits = ((long) (power + DOUBLE_BIAS) << 52) + (long) ((scaled(size, power) - 1) * (double) TWO_TO_52);
-            return number < 0 ? bits | Long.MIN_VALUE : bits;
+            return number < 0 ? bits | DOUBLE_MINUS : bits;
         }
 
         static int ofFloat(float number) {
@@ -1644,7 +1646,7 @@ public final class PayPromise {
             double size = number < 0 ? -number : number;
             int power = powerOf(size);
             int bits = ((power + FLOAT_BIAS) << 23) + (int) ((scaled(size, power) - 1) * (double) TWO_TO_23);
-            return number < 0 ? bits | Integer.MIN_VALUE : bits;
+            return number < 0 ? bits | FLOAT_MINUS : bits;
         }
 
         /** The power of 2 that is just no more; all numbers here lie between 2 to -100 and 2 to 100. */
