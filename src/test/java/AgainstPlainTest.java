@@ -182,10 +182,7 @@ public final class AgainstPlainTest {
 
     private void tell(String text) {
         for (int i = 0; i < text.length(); i += 20) {
-            int[] n = new int[5];
-            for (int j = 0; j < 20 && i + j < text.length(); j++) {
-                n[j / 4] |= text.charAt(i + j) << (24 - 8 * (j % 4));
-            }
+            int[] n = Check.numbersOf(text, i);
             feed(n[0], n[1], n[2], n[3], n[4]);
         }
     }

@@ -24,21 +24,7 @@ public final class AnyCallTest {
     public static void main(String[] args) throws IllegalAccessException {
         anyArguments();
         room();
-        System.out.println("every call is answered");
-    }
-
-    private static void tell(PayPromise x, String text) {
-        x.end(0);
-        for (int i = 0; i < text.length(); i += 20) {
-            int[] n = new int[5];
-            for (int j = 0; j < 20 && i + j < text.length(); j++) {
-                n[j / 4] |= text.charAt(i + j) << (24 - 8 * (j % 4));
-            }
-            x.feed(n[0], n[1], n[2], n[3], n[4]);
-        }
-        if (x.desk() < 0) {
-            throw new IllegalStateException("refused at " + x.fault() + ": " + text);
-        }
+        Check.finish("every call is answered");
     }
 
     private static void anyArguments() throws IllegalAccessException {
@@ -51,10 +37,7 @@ public final class AnyCallTest {
         calls.sort(Comparator.comparing(Method::getName));
         Random random = new Random(47);
         for (int run = 0; run < 60; run++) {
-            PayPromise x = new PayPromise();
-            if (run % 6 < TEXTS.length) {
-                tell(x, TEXTS[run % 6]);
-            }
+            PayPromise x = run % 6 < TEXTS.length ? Check.desk(TEXTS[run % 6]) : new PayPromise();
             for (int i = 0; i < 500; i++) {
                 anyCall(x, calls.get(random.nextInt(calls.size())), random);
             }
@@ -89,7 +72,8 @@ public final class AnyCallTest {
         long before = counter.getThreadAllocatedBytes(id);
         PayPromise x = new PayPromise();
         long made = counter.getThreadAllocatedBytes(id) - before;
-        tell(x, TEXTS[4]);
+        Check.tell(x, TEXTS[4]);
+        x.desk();
         before = counter.getThreadAllocatedBytes(id);
         for (int i = 0; i < 500; i++) {
             x.benefit(i % 1000);

@@ -1,17 +1,9 @@
-import java.util.NoSuchElementException;
-
 /** Each promise of the document by answers reckoned by hand: ordinary inputs, edges, wrong inputs. */
-public final class PromisesTest {
-    private static final int NONE = -1;
-    private static final int NO_SUCH = -2;
-    private static final long HIDDEN = -9000000000000000000L;
-    private static final long UNIT = 1_000_000_000L;
+public final class PromisesTest extends Check {
     private static final String TAXED = "a=g/0:0/1000:200/3000:400;n=g-a";
     private static final String CLIFF = "k100;a=g+k/0:0/2000:500:0;n=g-a";
     /** PAID rises by 1 to 100 at 100, falls by 0.999 to 1.099 at 199, is 1 from 200 to 300, rises by 1 again. */
     private static final String BUMPY = "a=g/0:0/100:1999/200:199:1000/300:299:0;n=g-a";
-    private static int wrong = 0;
-    private static String promise = "";
 
     public static void main(String[] args) {
         deskAndTape();
@@ -34,77 +26,17 @@ public final class PromisesTest {
         counts();
         withoutDesk();
         greatestNumbers();
-        System.out.println(wrong == 0 ? "all promises hold" : wrong + " answers are wrong");
-        if (wrong != 0) {
-            System.exit(1);
-        }
-    }
-
-    private static void due(long got, long want) {
-        if (got != want) {
-            wrong++;
-            System.out.println("promise " + promise + " (line "
-                + new Throwable().getStackTrace()[1].getLineNumber() + "): answered " + got + ", due is " + want);
-        }
-    }
-
-    private static void due(boolean got, boolean want) {
-        if (got != want) {
-            wrong++;
-            System.out.println("promise " + promise + " (line "
-                + new Throwable().getStackTrace()[1].getLineNumber() + "): answered " + got + ", due is " + want);
-        }
-    }
-
-    private static int tell(PayPromise x, String text) {
-        int length = x.count(0);
-        for (int i = 0; i < text.length(); i += 20) {
-            int[] n = new int[5];
-            for (int j = 0; j < 20 && i + j < text.length(); j++) {
-                n[j / 4] |= text.charAt(i + j) << (24 - 8 * (j % 4));
-            }
-            length = x.feed(n[0], n[1], n[2], n[3], n[4]);
-        }
-        return length;
-    }
-
-    private static PayPromise desk(String text) {
-        PayPromise x = new PayPromise();
-        tell(x, text);
-        if (x.desk() == NONE) {
-            wrong++;
-            System.out.println("refused at " + x.fault() + ": " + text);
-        }
-        return x;
-    }
-
-    private static int faultOf(String text) {
-        PayPromise x = new PayPromise();
-        tell(x, text);
-        return x.fault();
-    }
-
-    private static boolean throwsNoSuch(PayPromise x, int account, int what) {
-        try {
-            x.account(account, what);
-            return false;
-        } catch (NoSuchElementException e) {
-            return true;
-        }
-    }
-
-    private static String repeat(String part, int times) {
-        return part.repeat(times);
+        finish("all promises hold");
     }
 
     private static void deskAndTape() {
-        promise = "1";
+        promise("1");
         PayPromise x = new PayPromise();
         due(x.rule(0), NONE);
         due(x.count(0), 0);
         due(x.fault(), 0);
 
-        promise = "2";
+        promise("2");
         due(x.feed(0, 0, 0, 0, 0), 0);
         due(x.feed(0x6e003d67, 0, 0, 0, 0), 3);
         due(x.feed(0x20, 0x2000, 0x200000, 0x20000000, 0x20202020), 11);
@@ -112,7 +44,7 @@ public final class PromisesTest {
         due(x.feed(-1, -1, -1, -1, -1), 31);
         due(x.fault(), 11);
         x = new PayPromise();
-        due(tell(x, repeat(" ", 399)), 399);
+        due(tell(x, " ".repeat(399)), 399);
         due(x.feed(0x20200000, 0, 0, 0, 0), NONE);
         due(x.count(0), 399);
         due(x.feed(0, 0, 0, 0, 0x20), 400);
@@ -124,7 +56,7 @@ public final class PromisesTest {
         due(x.feed(0, 0, 0, 0, 0), 400);
         due(x.fault(), 400);
 
-        promise = "3";
+        promise("3");
         due(x.end(-1), false);
         due(x.end(401), false);
         due(x.end(400), true);
@@ -137,7 +69,7 @@ public final class PromisesTest {
         due(x.end(3), true);
         due(x.fault(), NONE);
 
-        promise = "5";
+        promise("5");
         due(x.desk(), 0);
         due(x.count(0), 0);
         due(x.desk(), NONE);
@@ -154,7 +86,7 @@ public final class PromisesTest {
         due(x.rule(1), 0);
         due(x.status(1), 1);
 
-        promise = "6";
+        promise("6");
         x = desk("k7;a=g/0:0;b=a+k/0:0/100:50:1;n=g-a+k-b");
         due(x.rule(0), 2);
         due(x.rule(1), 7);
@@ -173,7 +105,7 @@ public final class PromisesTest {
     }
 
     private static void faults() {
-        promise = "4";
+        promise("4");
         due(faultOf("n=g"), NONE);
         due(faultOf("  n =  - g + k - k "), NONE);
         due(faultOf(""), 0);
@@ -263,7 +195,7 @@ public final class PromisesTest {
     }
 
     private static void accountsAndSegments() {
-        promise = "7";
+        promise("7");
         PayPromise x = desk("k1;a=g/0:0/10:5:3;b=a-k+g/0:1;c=-b/0:4;n=a");
         due(x.account(0, 0), 2);
         due(x.account(1, 0), 1);
@@ -279,7 +211,7 @@ public final class PromisesTest {
         due(throwsNoSuch(x, 0, -1), true);
         due(throwsNoSuch(new PayPromise(), 0, 0), true);
 
-        promise = "8";
+        promise("8");
         x = desk("k100;a=g-k/0:3:0/50:500/200:0:1;n=a");
         due(x.segment(0, 0, 0), 0);
         due(x.segment(0, 0, 1), 3);
@@ -300,7 +232,7 @@ public final class PromisesTest {
     }
 
     private static void values() {
-        promise = "9";
+        promise("9");
         PayPromise x = desk("k2;a=g-k/0:3:500/4:1/6:7:0;b=a+a/0:10;n=g-b-a");
         due(x.at(0, 0), 3 * UNIT);
         due(x.at(0, 2), 3 * UNIT);
@@ -317,7 +249,7 @@ public final class PromisesTest {
         due(x.at(2, 0), HIDDEN);
         due(x.at(-2, 0), HIDDEN);
 
-        promise = "10";
+        promise("10");
         due(x.sum(0, 0), -2 * UNIT);
         due(x.sum(1, 7), 10_002_000_000L);
         due(x.sum(-1, 7), HIDDEN);
@@ -325,7 +257,7 @@ public final class PromisesTest {
         due(x.sum(0, 10000), HIDDEN);
         due(x.sum(0, -1), HIDDEN);
 
-        promise = "11";
+        promise("11");
         due(x.which(0, 0), 0);
         due(x.which(0, 5), 0);
         due(x.which(0, 6), 1);
@@ -336,13 +268,13 @@ public final class PromisesTest {
         due(x.which(0, 10000), NONE);
         due(x.which(0, -1), NONE);
 
-        promise = "33";
+        promise("33");
         due(x.kept(7), 5_101_020_000L);
         due(x.kept(0), 3_060_000_000L);
         due(x.kept(-1), HIDDEN);
         due(x.kept(10000), HIDDEN);
 
-        promise = "17";
+        promise("17");
         x = desk(CLIFF);
         due(x.more(0), UNIT);
         due(x.more(1899), -499 * UNIT);
@@ -352,7 +284,7 @@ public final class PromisesTest {
     }
 
     private static void pieces() {
-        promise = "12";
+        promise("12");
         // a: 0 at 0 .. 9, 5 at 10, 5.5 at 11 ..; at 9999 it jumps to 1: a PIECE of one WAGE.
         PayPromise x = desk("a=g/0:0/10:5:500/9999:1:0;n=-a");
         due(x.piece(0, 0, 0), 0);
@@ -375,7 +307,7 @@ public final class PromisesTest {
         due(x.piece(1, 0, 0), HIDDEN);
         due(x.piece(-2, 0, 0), HIDDEN);
 
-        promise = "20";
+        promise("20");
         due(x.jumps(0), 2);
         due(x.jumps(-1), 2);
         due(x.jumps(1), NONE);
@@ -392,7 +324,7 @@ public final class PromisesTest {
         due(x.piece(0, 2, 0), 5);
         due(x.jumps(0), 1);
 
-        promise = "13";
+        promise("13");
         x = desk("a=g/0:0/10:5:500/9999:1:0;n=-a");
         due(x.pieceAt(0, 0), 0);
         due(x.pieceAt(0, 9), 0);
@@ -404,7 +336,7 @@ public final class PromisesTest {
         due(x.pieceAt(1, 0), NONE);
         due(x.pieceAt(-2, 0), NONE);
 
-        promise = "40";
+        promise("40");
         due(x.kinks(0, 0), 1);
         due(x.kinks(0, 1), 1);
         due(x.kinks(-1, 0), 1);
@@ -419,7 +351,7 @@ public final class PromisesTest {
     }
 
     private static void promisedPay() {
-        promise = "14";
+        promise("14");
         PayPromise x = desk(BUMPY);
         long high = 100 * UNIT;
         due(x.at(-1, 100), high);
@@ -455,7 +387,7 @@ public final class PromisesTest {
         due(desk("n=-g").promised(-9999 * UNIT, 3), 9999);
         due(desk("n=-g").promised(-5 * UNIT - 1, 3), 6);
 
-        promise = "15";
+        promise("15");
         due(x.exactly(UNIT, 0), 1);
         due(x.exactly(UNIT, 1), 200);
         due(x.exactly(UNIT, 101), 300);
@@ -467,7 +399,7 @@ public final class PromisesTest {
     }
 
     private static void cliffs() {
-        promise = "16";
+        promise("16");
         PayPromise x = desk(BUMPY);
         due(x.cliff(0, 0), 101);
         due(x.cliff(0, 1), 999_000_000L);
@@ -494,7 +426,7 @@ public final class PromisesTest {
     }
 
     private static void bits() {
-        promise = "18";
+        promise("18");
         PayPromise x = desk(TAXED);
         due(x.average(500), 0);
         due(x.average(2000), Double.doubleToLongBits(0.1));
@@ -510,7 +442,7 @@ public final class PromisesTest {
         due(desk("k5;n=k").average(0), Double.doubleToLongBits(Double.NEGATIVE_INFINITY));
         due(desk("k5;n=-k").average(0), Double.doubleToLongBits(Double.POSITIVE_INFINITY));
 
-        promise = "19";
+        promise("19");
         due(x.rate(0), Float.floatToIntBits(0f));
         due(x.rate(1), Float.floatToIntBits(200f));
         due(x.rate(2), Float.floatToIntBits(400f));
@@ -523,7 +455,7 @@ public final class PromisesTest {
     }
 
     private static void byHand() {
-        promise = "21";
+        promise("21");
         PayPromise x = desk("a=g/0:100/10:200/20:300;n=g-a");
         due(x.bend(0, 1, 2, 400), 200);
         due(x.at(0, 20), 5 * UNIT);
@@ -562,7 +494,7 @@ public final class PromisesTest {
         due(x.status(1), 11);
         due(x.status(2), 2);
 
-        promise = "22";
+        promise("22");
         x = desk("k3;a=k/0:1000;n=g+k-a");
         due(x.benefit(4), 3);
         due(x.rule(1), 4);
@@ -581,7 +513,7 @@ public final class PromisesTest {
     private static void months() {
         // KEPT 100 from 1200 on, else 0.
         String text = "a=g/0:0/1200:100:0;n=g-a";
-        promise = "23";
+        promise("23");
         PayPromise x = desk(text);
         due(x.month(120), 120 * UNIT - 8_333_333_333L);
         due(x.month(0), 8_333_333_333L);
@@ -592,7 +524,7 @@ public final class PromisesTest {
         // KEPT below 0 is cut downwards.
         due(desk("k1;n=g+k").month(5), 5 * UNIT + 83_333_334L);
 
-        promise = "25";
+        promise("25");
         due(x.year(0, 0), 120);
         due(x.year(1, 0), 0);
         due(x.year(2, 1), 275 * UNIT);
@@ -605,7 +537,7 @@ public final class PromisesTest {
         due(x.year(0, 3), HIDDEN);
         due(x.year(0, -1), HIDDEN);
 
-        promise = "26";
+        promise("26");
         due(x.sofar(0), 420);
         due(x.sofar(1), 395 * UNIT);
         due(x.sofar(2), 1);
@@ -621,12 +553,12 @@ public final class PromisesTest {
         same.month(5);
         due(same.sofar(3), 0);
 
-        promise = "25";
+        promise("25");
         x.bend(0, 1, 1, 120);
         due(x.year(0, 2), 10 * UNIT);
         due(x.year(1, 1), 10 * UNIT);
 
-        promise = "24";
+        promise("24");
         due(x.takeBack(), 300);
         due(x.takeBack(), 0);
         due(x.rule(2), 1);
@@ -634,7 +566,7 @@ public final class PromisesTest {
         due(x.takeBack(), NONE);
         due(x.status(0), 1);
 
-        promise = "23";
+        promise("23");
         for (int i = 0; i < 12; i++) {
             due(x.month(9999), 9989 * UNIT);
         }
@@ -646,8 +578,8 @@ public final class PromisesTest {
     }
 
     private static void monthsAhead() {
-        String text = "a=g/0:0/1200:120:0;n=g-a";
-        promise = "27";
+        String text = FROM_1200;
+        promise("27");
         PayPromise x = desk(text);
         due(x.nextMonth(99 * UNIT), 99);
         due(x.nextMonth(99 * UNIT + 1), 110);
@@ -662,7 +594,7 @@ public final class PromisesTest {
         due(x.nextMonth(59 * UNIT), 49);
         due(x.nextMonth(60 * UNIT), 70);
 
-        promise = "28";
+        promise("28");
         // All WAGES 150 + 11 W: nothing is KEPT to 1199 (W 95), 120 from 1200 on (W 96).
         due(x.level(1195 * UNIT), 95);
         due(x.level(1195 * UNIT + 1), 106);
@@ -671,7 +603,7 @@ public final class PromisesTest {
         due(x.level((150 + 11 * 9999 - 120) * UNIT), 9999);
         due(x.level((150 + 11 * 9999 - 120) * UNIT + 1), NONE);
 
-        promise = "29";
+        promise("29");
         due(x.dueAhead(), 10 * UNIT);
         due(desk(text).dueAhead(), 0);
         due(desk("k7;n=k").dueAhead(), 7 * UNIT);
@@ -679,7 +611,7 @@ public final class PromisesTest {
         early.month(9999);
         due(early.dueAhead(), 10 * UNIT - 120 * UNIT);
 
-        promise = "41";
+        promise("41");
         due(x.until(95, 140 * UNIT), 0);
         due(x.until(95, 140 * UNIT + 1), 1);
         due(x.until(95, 1195 * UNIT), 11);
@@ -688,7 +620,7 @@ public final class PromisesTest {
         due(x.until(-1, 0), NONE);
         due(x.until(10000, 0), NONE);
 
-        promise = "43";
+        promise("43");
         x.month(20);
         // 150, 20: DUE 10, 0. With 30 ahead of the first: 30, 150, 20: DUE behind two 0, behind one 0.
         due(x.putIn(0, 30, 0), 150 * UNIT);
@@ -708,17 +640,17 @@ public final class PromisesTest {
         x.month(1);
         due(x.putIn(0, 5, 0), HIDDEN);
 
-        promise = "27";
+        promise("27");
         due(x.nextMonth(0), NONE);
-        promise = "28";
+        promise("28");
         due(x.level(0), NONE);
-        promise = "29";
+        promise("29");
         due(x.dueAhead(), 0);
-        promise = "41";
+        promise("41");
         due(x.until(5, 0), 0);
         due(x.until(5, 181 * UNIT), NONE);
 
-        promise = "31";
+        promise("31");
         x = desk(text);
         due(x.both(90, 109), 199 * UNIT);
         due(x.both(90, 110), 180 * UNIT);
@@ -734,7 +666,7 @@ public final class PromisesTest {
         // At 100: SUM of a 110: 10 + 2 = 12; b: 1 + 7 = 8; PAID 80.
         due(x.at(-1, 100), 80 * UNIT);
 
-        promise = "30";
+        promise("30");
         due(x.would(0, 0, 0, 100), 98 * UNIT);
         due(x.would(0, 1, 300, 100), 78 * UNIT);
         due(x.would(1, 1, 0, 100), 87 * UNIT);
@@ -751,7 +683,7 @@ public final class PromisesTest {
         due(x.at(-1, 100), 80 * UNIT);
         due(x.segment(0, 0, 2), 100);
 
-        promise = "32";
+        promise("32");
         due(x.without(0, 100), 100 * UNIT);
         due(x.without(1, 100), 88 * UNIT);
         due(x.without(2, 100), HIDDEN);
@@ -759,7 +691,7 @@ public final class PromisesTest {
         due(x.without(0, 10000), HIDDEN);
         due(x.without(0, -1), HIDDEN);
 
-        promise = "38";
+        promise("38");
         // One WAGE more at 100 brings 1 - 0.2 - 0.2; with a held 1; with b held 0.8.
         due(x.through(0, 100), -400_000_000L);
         due(x.through(1, 100), -200_000_000L);
@@ -769,7 +701,7 @@ public final class PromisesTest {
         due(x.through(2, 0), HIDDEN);
         due(x.through(-1, 0), HIDDEN);
 
-        promise = "37";
+        promise("37");
         // At 100 b and a by the BENEFIT K: 100 - (10 + K / 5) - (6 + K / 5) = 84 - 2 K / 5.
         due(x.inKind(80 * UNIT, 100), 10);
         due(x.inKind(80 * UNIT + 1, 100), 9);
@@ -783,7 +715,7 @@ public final class PromisesTest {
     }
 
     private static void searches() {
-        promise = "34";
+        promise("34");
         PayPromise x = desk("k5;a=g-k/0:0/10:1;b=k/0:1;c=g/0:0;n=g");
         due(x.first(0), 16);
         due(x.first(1), 0);
@@ -791,7 +723,7 @@ public final class PromisesTest {
         due(x.first(3), NONE);
         due(x.first(-1), NONE);
 
-        promise = "35";
+        promise("35");
         x = desk(BUMPY);
         due(x.raise(50, 50 * UNIT), 100);
         due(x.raise(50, 50 * UNIT + 1), 400);
@@ -806,7 +738,7 @@ public final class PromisesTest {
         due(x.raise(10000, 0), NONE);
         due(desk("n=-g-g").raise(9999, Long.MAX_VALUE), NONE);
 
-        promise = "42";
+        promise("42");
         x = desk(TAXED);
         due(x.free(0), 1000);
         due(x.free(100), 2000);
@@ -823,7 +755,7 @@ public final class PromisesTest {
     private static void twoLines() {
         // a: 0 1 2 .., b: 5 at all WAGES, PAID: a less b.
         PayPromise x = desk("a=g/0:1000;b=k/0:5:0;n=a-b");
-        promise = "36";
+        promise("36");
         due(x.over(0, 1, 0), 5);
         due(x.over(0, 1, 5), 5);
         due(x.over(0, 1, 77), 77);
@@ -840,7 +772,7 @@ public final class PromisesTest {
         due(x.over(0, 1, -1), NONE);
         due(x.over(0, 1, 10000), NONE);
 
-        promise = "39";
+        promise("39");
         due(x.crossings(0, 1, 0), 2);
         due(x.crossings(0, 1, 1), 9994 * UNIT);
         due(x.crossings(0, 1, 2), 9999);
@@ -864,21 +796,12 @@ public final class PromisesTest {
         due(x.crossings(0, 1, 2), 0);
     }
 
-    private static String spelled(PayPromise x, int account) {
-        StringBuilder s = new StringBuilder();
-        int length = x.spell(account, NONE);
-        for (int i = 0; i < length; i++) {
-            s.append((char) x.spell(account, i));
-        }
-        return s.toString();
-    }
-
     private static void spellings() {
-        promise = "44";
+        promise("44");
         PayPromise x = desk(" k 07; a = - g + k - g / 000 : 0010 / 10:0:05/0990: 9999 :1999;b=a/0:0 ; n = b - a + g ");
-        due(spelled(x, 0).equals("a=-g+k-g/0:10/10:0:5/990:9999:1999"), true);
-        due(spelled(x, 1).equals("b=a/0:0"), true);
-        due(spelled(x, -1).equals("n=b-a+g"), true);
+        due(spelled(x, 0), "a=-g+k-g/0:10/10:0:5/990:9999:1999");
+        due(spelled(x, 1), "b=a/0:0");
+        due(spelled(x, -1), "n=b-a+g");
         due(x.spell(-1, 7), NONE);
         due(x.spell(-1, -2), NONE);
         due(x.spell(2, -1), NONE);
@@ -887,11 +810,11 @@ public final class PromisesTest {
         x.bend(0, 0, 1, 0);
         x.bend(0, 1, 0, 500);
         x.bend(0, 1, 2, 1000);
-        due(spelled(x, 0).equals("a=-g+k-g/0:0:10/500:0:1000/990:9999:1999"), true);
+        due(spelled(x, 0), "a=-g+k-g/0:0:10/500:0:1000/990:9999:1999");
     }
 
     private static void statusOfRefusals() {
-        promise = "45";
+        promise("45");
         PayPromise x = new PayPromise();
         x.bend(0, 0, 2, 2000);
         x.benefit(1000);
@@ -924,7 +847,7 @@ public final class PromisesTest {
     }
 
     private static void mosts() {
-        promise = "46";
+        promise("46");
         PayPromise x = desk(BUMPY);
         due(x.most(0), (9999 - 299) * UNIT);
         due(x.most(1), 9999);
@@ -973,7 +896,7 @@ public final class PromisesTest {
     }
 
     private static void counts() {
-        promise = "47";
+        promise("47");
         PayPromise x = desk("a=g/0:0/5:6;b=a/0:1/7:7:7/9:1;n=b");
         due(x.count(0), 0);
         due(x.count(1), 5);
@@ -987,7 +910,7 @@ public final class PromisesTest {
     }
 
     private static void withoutDesk() {
-        promise = "without a desk";
+        promise("without a desk");
         PayPromise x = new PayPromise();
         due(x.rule(0), NONE);
         due(x.segment(0, 0, 0), NO_SUCH);
@@ -1031,7 +954,7 @@ public final class PromisesTest {
     }
 
     private static void greatestNumbers() {
-        promise = "9, with the greatest numbers";
+        promise("9, with the greatest numbers");
         PayPromise x = desk("a=g+g+g+g+g+g/0:9999:1999;b=a+a+a+a+a+a/0:9999:1999;c=b+b+b+b+b+b/0:9999:1999;n=c+c+c+c+c+c");
         due(x.at(0, 9999), 129_927_006_000_000L);
         due(x.at(1, 9999), 1_568_343_509_964_000L);
