@@ -13,18 +13,6 @@ import java.util.regex.Pattern;
 
 /** The face is the document's and no more (LANGUAGE.md rule 1), and what rules 2 to 6 forbid is not in the file. */
 public final class FaceTest {
-    private static final String[] FACE = {
-        "int feed(int,int,int,int,int)", "boolean end(int)", "int fault()", "int desk()", "int rule(int)",
-        "int account(int,int)", "int segment(int,int,int)", "long at(int,int)", "long sum(int,int)",
-        "int which(int,int)", "long piece(int,int,int)", "int pieceAt(int,int)", "int promised(long,int)",
-        "int exactly(long,int)", "long cliff(int,int)", "long more(int)", "long average(int)", "int rate(int)",
-        "int jumps(int)", "int bend(int,int,int,int)", "int benefit(int)", "long month(int)", "int takeBack()",
-        "long year(int,int)", "long sofar(int)", "int nextMonth(long)", "int level(long)", "long dueAhead()",
-        "long would(int,int,int,int)", "long both(int,int)", "long without(int,int)", "long kept(int)",
-        "int first(int)", "int raise(int,long)", "int over(int,int,int)", "int inKind(long,int)",
-        "long through(int,int)", "long crossings(int,int,int)", "int kinks(int,int)", "int until(int,long)",
-        "int free(int)", "long putIn(int,int,int)", "int spell(int,int)", "int status(int)", "long most(int)",
-        "int count(int)"};
     private static final String[] FORBIDDEN = {
         "->", "::", "\\w+Exact\\(", "Double\\.", "Float\\.", "System\\.(?!arraycopy)", "synchronized", "assert ",
         "finally", "static final (double|float)", "catch \\(", "@", "import (?!java\\.util\\.(Arrays|NoSuchElementException);)",
@@ -32,7 +20,9 @@ public final class FaceTest {
     private static int wrong = 0;
 
     public static void main(String[] args) throws IOException {
-        methods();
+        List<String> face = faceOfDocument();
+        asWritten(face);
+        methods(face);
         fieldsAndConstructors();
         nestedClasses();
         forbiddenWords();
@@ -47,6 +37,33 @@ public final class FaceTest {
         System.out.println(text);
     }
 
+    /** The lines of the document's face, from the class's first one to its last. */
+    private static List<String> faceOfDocument() throws IOException {
+        String all = Files.readString(Path.of("../shared/DOC.md"));
+        int start = all.indexOf("public final class PayPromise {");
+        int end = all.indexOf("\n}\n", Math.max(start, 0));
+        if (start < 0 || end < 0) {
+            throw new IllegalStateException("the document has no face");
+        }
+        return List.of(all.substring(start, end).split("\n"));
+    }
+
+    /** Each line of the face stands in the file as it is, with the names of its parameters and what it throws. */
+    private static void asWritten(List<String> face) throws IOException {
+        List<String> lines = Files.readAllLines(Path.of("src/main/java/PayPromise.java"));
+        for (String line : face) {
+            if (!lines.contains(line.endsWith(");") || line.endsWith("Exception;") ? line.replace(";", " {") : line)) {
+                fault("not in the file as in the document: " + line);
+            }
+        }
+    }
+
+    /** A method's line of the face as told(Method) tells it. */
+    private static String told(String line) {
+        return line.replaceAll("^ *public ", "").replaceAll("(int|long) \\w+([,)])", "$1$2").replaceAll(", ", ",")
+            .replaceAll("\\).*", ")");
+    }
+
     private static String told(Method m) {
         List<String> types = new ArrayList<>();
         for (Class<?> type : m.getParameterTypes()) {
@@ -55,8 +72,16 @@ public final class FaceTest {
         return m.getReturnType().getName() + " " + m.getName() + "(" + String.join(",", types) + ")";
     }
 
-    private static void methods() {
-        Set<String> due = new TreeSet<>(List.of(FACE));
+    private static void methods(List<String> face) {
+        Set<String> due = new TreeSet<>();
+        for (String line : face) {
+            if (line.contains("(") && !line.contains("public PayPromise(")) {
+                due.add(told(line));
+            }
+        }
+        if (due.size() != 46) {
+            fault("the document's face is read wrongly: " + due);
+        }
         Set<String> names = new TreeSet<>();
         Set<String> open = new TreeSet<>();
         for (Method m : PayPromise.class.getDeclaredMethods()) {
